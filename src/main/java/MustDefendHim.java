@@ -232,7 +232,11 @@ public final class MustDefendHim {
             return BAD;
         }
         int refusal = refusalOfRoll(shelf);
-        return refusal < 0 ? refusal : cases.firstSold(shelves[shelf], now);
+        if (refusal < 0) {
+            return refusal;
+        }
+        cases.weighWays(shelves[shelf], now);
+        return cases.firstSold(shelves[shelf], now);
     }
 
     public int friend(int ab, int k) {
@@ -590,7 +594,7 @@ public final class MustDefendHim {
         }
 
         boolean isFree(int one) {
-            return boundTo(one) == FREE;
+            return isSeat(one) && bound[one] == FREE;
         }
 
         int casesAhead() {
@@ -670,17 +674,18 @@ public final class MustDefendHim {
         }
     }
 
-    /** The law as steps over a stack, so that no text is read again for each case. */
+    /** The law as steps, each over the values of earlier ones: no text is read again for a case. */
     private static final class Law {
         // Beside these, each sign of the text is its own step.
         static final char NUMBER = '0', NAME = 'a', MINUS = '_', UNLESS = '?', END = ';';
+        static final int NO_STEP = -1;
         private static final int MOST_STEPS = 2 * MOST_LETTERS + 2;
 
         private final char[] steps = new char[MOST_STEPS];
-        private final int[] with = new int[MOST_STEPS];
+        private final int[] lefts = new int[MOST_STEPS];
+        private final int[] rights = new int[MOST_STEPS];
+        private final int[] values = new int[MOST_STEPS];
         private int size = 0;
-        private final int[] stack = new int[MOST_STEPS];
-        private int top = 0;
 
         void clear() {
             size = 0;
@@ -690,107 +695,87 @@ public final class MustDefendHim {
             return size > 0;
         }
 
-        int size() {
-            return size;
-        }
-
-        void add(char step, int value) {
-            if (size < MOST_STEPS) {
-                steps[size] = step;
-                with[size] = value;
-                size++;
+        /** A step over the values at two earlier places (right is 0 where one is enough): its place. */
+        int add(char step, int left, int right) {
+            if (left < 0 || left >= size || right < 0 || right >= size) {
+                return NO_STEP;
             }
+            return append(step, left, right, 0);
         }
 
-        /** The step at place goes on at the step that comes next. */
+        /** A number's value stands from the start: nothing is worked out at its step. */
+        int addNumber(int value) {
+            return append(NUMBER, 0, 0, value);
+        }
+
+        int addName(int name) {
+            return name < 0 || name >= MOST_STEPS ? NO_STEP : append(NAME, name, 0, 0);
+        }
+
+        private int append(char step, int left, int right, int value) {
+            if (size >= MOST_STEPS) {
+                return NO_STEP;
+            }
+            steps[size] = step;
+            lefts[size] = left;
+            rights[size] = right;
+            values[size] = value;
+            size++;
+            return size - 1;
+        }
+
+        /** The step at place, if it is one, goes on at the step that comes next. */
         void aimHere(int place) {
-            if (place >= 0 && place < size) {
-                with[place] = size;
+            if (place >= 0 && place < size && size < MOST_STEPS) {
+                rights[place] = size;
             }
         }
 
         void copyFrom(Law other) {
             System.arraycopy(other.steps, 0, steps, 0, MOST_STEPS);
-            System.arraycopy(other.with, 0, with, 0, MOST_STEPS);
+            System.arraycopy(other.lefts, 0, lefts, 0, MOST_STEPS);
+            System.arraycopy(other.rights, 0, rights, 0, MOST_STEPS);
+            System.arraycopy(other.values, 0, values, 0, MOST_STEPS);
             size = other.size;
         }
 
         /** What the first line that counts gives; names by their places in LawReader.NAMES. */
         int worth(int[] names) {
             int next = 0;
-            top = 0;
             for (int at = 0; at < size; at++) {
-                if (at < next) {
+                if (at < next || steps[at] == NUMBER) {
                     continue;
                 }
-                char step = steps[at];
-                if (step == END) {
-                    return pop();
-                }
-                if (step == UNLESS) {
-                    next = pop() == 0 ? with[at] : at + 1;
-                } else if (step == NUMBER) {
-                    push(with[at]);
-                } else if (step == NAME) {
-                    push(named(names, with[at]));
-                } else {
-                    reckon(step);
+                int left = values[lefts[at]];
+                int right = values[rights[at]];
+                switch (steps[at]) {
+                    case END: return left;
+                    case UNLESS: next = left == 0 ? rights[at] : at; break;
+                    case NAME: values[at] = lefts[at] < names.length ? names[lefts[at]] : 0; break;
+                    case MINUS: values[at] = -left; break;
+                    case '!': values[at] = left == 0 ? 1 : 0; break;
+                    case '|': values[at] = left != 0 || right != 0 ? 1 : 0; break;
+                    case '&': values[at] = left != 0 && right != 0 ? 1 : 0; break;
+                    case '<': values[at] = left < right ? 1 : 0; break;
+                    case '=': values[at] = left == right ? 1 : 0; break;
+                    case '>': values[at] = left > right ? 1 : 0; break;
+                    case '+': values[at] = left + right; break;
+                    case '-': values[at] = left - right; break;
+                    case '*': values[at] = left * right; break;
+                    case '/': values[at] = right == 0 ? 0 : left / right; break;
+                    case '%': values[at] = right == 0 ? 0 : left % right; break;
+                    default: break;
                 }
             }
             return 0;
         }
-
-        private static int named(int[] names, int which) {
-            return which >= 0 && which < names.length ? names[which] : 0;
-        }
-
-        private void reckon(char step) {
-            int right = pop();
-            if (step == '!') {
-                push(right == 0 ? 1 : 0);
-            } else if (step == MINUS) {
-                push(-right);
-            } else {
-                push(joined(step, pop(), right));
-            }
-        }
-
-        private static int joined(char step, int left, int right) {
-            switch (step) {
-                case '|': return left != 0 || right != 0 ? 1 : 0;
-                case '&': return left != 0 && right != 0 ? 1 : 0;
-                case '<': return left < right ? 1 : 0;
-                case '=': return left == right ? 1 : 0;
-                case '>': return left > right ? 1 : 0;
-                case '+': return left + right;
-                case '-': return left - right;
-                case '*': return left * right;
-                case '/': return right == 0 ? 0 : left / right;
-                case '%': return right == 0 ? 0 : left % right;
-                default: return 0;
-            }
-        }
-
-        private void push(int value) {
-            if (top < MOST_STEPS) {
-                stack[top] = value;
-                top++;
-            }
-        }
-
-        private int pop() {
-            if (top <= 0) {
-                return 0;
-            }
-            top--;
-            return stack[top];
-        }
     }
 
-    /** The tape, and the reading of it; each read..() is false where no text goes on at 'at'. */
+    /** The tape, and the reading of it; each read..() stops at 'at' where no text goes on. */
     private static final class LawReader {
         private static final String NAMES = "adohbn";
-        private static final int MOST_OPEN = 6, MOST_DIGITS = 4;
+        private static final int MOST_OPEN = 6, MOST_DIGITS = 4, NO_STEP = Law.NO_STEP;
+        private static final int LOOSEST = 0, COMPARED = 2, TIGHTEST = 4;
 
         private final char[] tape = new char[MOST_LETTERS];
         private int length = 0;
@@ -826,12 +811,8 @@ public final class MustDefendHim {
             return -1;
         }
 
-        private boolean isNext(char sign) {
-            return at < length && tape[at] == sign;
-        }
-
         private boolean takes(char sign) {
-            if (!isNext(sign)) {
+            if (at >= length || tape[at] != sign) {
                 return false;
             }
             at++;
@@ -854,105 +835,82 @@ public final class MustDefendHim {
         }
 
         private boolean readLine() {
-            if (!readEither(0)) {
+            int worth = readJoined(LOOSEST, 0);
+            int asked = NO_STEP;
+            if (worth != NO_STEP && takes('?')) {
+                asked = draft.add(Law.UNLESS, worth, 0);
+                worth = readJoined(LOOSEST, 0);
+            }
+            if (worth == NO_STEP) {
                 return false;
             }
-            int asked = -1;
-            if (takes('?')) {
-                asked = draft.size();
-                draft.add(Law.UNLESS, 0);
-                if (!readEither(0)) {
-                    return false;
-                }
-            }
-            draft.add(Law.END, 0);
+            draft.add(Law.END, worth, 0);
             draft.aimHere(asked);
             return true;
         }
 
-        private boolean readEither(int open) {
-            boolean goes = readBoth(open);
-            for (int i = 0; i < MOST_LETTERS && goes && takes('|'); i++) {
-                goes = readBoth(open);
-                draft.add('|', 0);
+        /** E, A, B, S and P are alike but for their signs; a comparison is not joined again. */
+        private int readJoined(int tightness, int open) {
+            if (tightness > TIGHTEST) {
+                return readOne(open);
             }
-            return goes;
-        }
-
-        private boolean readBoth(int open) {
-            boolean goes = readCompared(open);
-            for (int i = 0; i < MOST_LETTERS && goes && takes('&'); i++) {
-                goes = readCompared(open);
-                draft.add('&', 0);
-            }
-            return goes;
-        }
-
-        private boolean readCompared(int open) {
-            if (!readSum(open)) {
-                return false;
-            }
-            if (!isNext('<') && !isNext('=') && !isNext('>')) {
-                return true;
-            }
-            char sign = tape[at];
-            at++;
-            boolean goes = readSum(open);
-            draft.add(sign, 0);
-            return goes;
-        }
-
-        private boolean readSum(int open) {
-            boolean goes = readProduct(open);
-            for (int i = 0; i < MOST_LETTERS && goes && (isNext('+') || isNext('-')); i++) {
+            int left = readJoined(tightness + 1, open);
+            int most = tightness == COMPARED ? 1 : MOST_LETTERS;
+            for (int i = 0; i < most && left != NO_STEP && isAtSign(tightness); i++) {
                 char sign = tape[at];
                 at++;
-                goes = readProduct(open);
-                draft.add(sign, 0);
+                int right = readJoined(tightness + 1, open);
+                left = right == NO_STEP ? NO_STEP : draft.add(sign, left, right);
             }
-            return goes;
+            return left;
         }
 
-        private boolean readProduct(int open) {
-            boolean goes = readOne(open);
-            for (int i = 0; i < MOST_LETTERS && goes
-                    && (isNext('*') || isNext('/') || isNext('%')); i++) {
-                char sign = tape[at];
-                at++;
-                goes = readOne(open);
-                draft.add(sign, 0);
+        private boolean isAtSign(int tightness) {
+            return at < length && tightnessOf(tape[at]) == tightness;
+        }
+
+        private static int tightnessOf(char sign) {
+            switch (sign) {
+                case '|': return LOOSEST;
+                case '&': return 1;
+                case '<':
+                case '=':
+                case '>': return COMPARED;
+                case '+':
+                case '-': return 3;
+                case '*':
+                case '/':
+                case '%': return TIGHTEST;
+                default: return -1;
             }
-            return goes;
         }
 
         /** A number, a name, or what stands behind one of ( ! - : these are counted as open. */
-        private boolean readOne(int open) {
+        private int readOne(int open) {
             if (at >= length) {
-                return false;
+                return NO_STEP;
             }
             char sign = tape[at];
             if (isDigit(sign)) {
-                draft.add(Law.NUMBER, readNumber());
-                return true;
+                return draft.addNumber(readNumber());
             }
             int name = NAMES.indexOf(sign);
             if (name >= 0) {
                 at++;
-                draft.add(Law.NAME, name);
-                return true;
+                return draft.addName(name);
             }
             if (open >= MOST_OPEN) {
-                return false;
+                return NO_STEP;
             }
             if (takes('(')) {
-                return readEither(open + 1) && takes(')');
+                int inner = readJoined(LOOSEST, open + 1);
+                return inner != NO_STEP && takes(')') ? inner : NO_STEP;
             }
             if (!takes('!') && !takes('-')) {
-                return false;
+                return NO_STEP;
             }
-            boolean goes = readOne(open + 1);
-            draft.add(sign == '-' ? Law.MINUS : sign, 0);
-            return goes;
+            int inner = readOne(open + 1);
+            return inner == NO_STEP ? NO_STEP : draft.add(sign == '-' ? Law.MINUS : sign, inner, 0);
         }
 
         private int readNumber() {
@@ -1169,8 +1127,8 @@ public final class MustDefendHim {
             return likeliest;
         }
 
+        /** Behind weighWays(): by the way that is the likeliest one. */
         int firstSold(Shelf row, Bench start) {
-            weighWays(row, start);
             if (likeliest == NOT) {
                 return NOT;
             }
@@ -1290,7 +1248,7 @@ public final class MustDefendHim {
 
         private void spread(int step, int ahead) {
             for (int i = 0; i < ASKED; i++) {
-                given[i] = -1;
+                given[i] = NOT;
             }
             for (int code = 0; code < CODES; code++) {
                 if (isReached(code, step)) {
@@ -1329,7 +1287,7 @@ public final class MustDefendHim {
             if (asked < 0 || asked >= ASKED) {
                 return court.twelfths(from, a, b);
             }
-            if (given[asked] < 0) {
+            if (given[asked] == NOT) {
                 given[asked] = court.twelfths(from, a, b);
             }
             return given[asked];
