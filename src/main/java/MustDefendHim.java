@@ -565,7 +565,7 @@ public final class MustDefendHim {
         }
 
         int stepAgain() {
-            if (undone > 0) {
+            if (undone > 0 && done < MOST_CHANGES) {
                 numbers[places[done]] = after[done];
                 done++;
                 undone--;
@@ -964,7 +964,7 @@ public final class MustDefendHim {
             return Math.max(0, Math.min(TWELVE, worth));
         }
 
-        /** Of how many of twelve an end has, when a wins by so many. */
+        /** How many of twelve an end has, when who charges wins by so many. */
         static int shareOf(boolean won, int twelfths) {
             return won ? twelfths : TWELVE - twelfths;
         }
@@ -1384,13 +1384,12 @@ public final class MustDefendHim {
 
         /** The fewest days; what is dealt is then the first way by days, charge by charge. */
         int dealDays() {
-            for (int days = 0; days < MOST_DEALT; days++) {
+            for (int days = 0; days <= MOST_DEALT; days++) {
                 if (dealFrom(0, days)) {
                     return days;
                 }
             }
-            dealFrom(0, MOST_DEALT);
-            return MOST_DEALT;
+            return NOT;
         }
 
         int dayOf(int k) {

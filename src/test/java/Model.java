@@ -65,6 +65,10 @@ final class Model {
     private final List<Case> bodies = new ArrayList<>();
     private final List<Integer> ran = new ArrayList<>();
 
+    Bonds bonds() {
+        return now.copy();
+    }
+
     private boolean is(int one) {
         return one >= 0 && one < people.size();
     }

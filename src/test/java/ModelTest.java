@@ -8,7 +8,7 @@ import java.util.Random;
 
 /** Runs of many kinds of calls, each laid beside the model; the runs are the same every time. */
 public final class ModelTest {
-    private static final int RUNS = 4000, CALLS = 500;
+    private static final int RUNS = 3000, CALLS = 500;
     private static final int[] ODD = {Integer.MIN_VALUE, -101, -2, -1, 7, 8, 61, 101, Integer.MAX_VALUE};
 
     private final Random random;
@@ -123,23 +123,37 @@ public final class ModelTest {
 
     private void newRow(int shelf, int group) {
         int many = Math.max(2, model.count(0));
-        int threes = up(up(3) == 0 ? 61 : 25);
-        ask("row", shelf, 0, threes);
-        int a = 0;
-        for (int i = 0; i < threes; i++) {
-            long v = i % group == 2 ? up(4) - 1L : up(many);
-            if (i % group == 2 && v == 2) {
-                v = -1;
+        int size = up(up(3) == 0 ? 61 : 25);
+        int[] values = new int[size];
+        Model.Bonds bonds = model.bonds();
+        for (int i = 0; i < size; i++) {
+            values[i] = up(many);
+            if (i % group == 0 && up(20) > 0) {
+                values[i] = someoneFree(bonds, many);
+            } else if (i % group == 1 && up(30) > 0) {
+                values[i] = (values[i - 1] + 1 + up(many - 1)) % many;
+            } else if (i % group == 2) {
+                int end = up(2);
+                boolean people = values[i - 2] < bonds.bound.size() && values[i - 1] < bonds.bound.size();
+                bonds = people ? bonds.after(values[i - 2], values[i - 1], end) : bonds;
+                values[i] = up(3) == 0 ? -1 : end;
             }
-            if (i % group == 1 && up(30) > 0) {
-                v = (a + 1 + up(many - 1)) % many;
-            }
-            if (up(150) == 0) {
-                v = random.nextInt();
-            }
-            a = (int) v;
-            ask("put", shelf, i, v);
         }
+        ask("row", shelf, 0, size);
+        for (int i = 0; i < size; i++) {
+            ask("put", shelf, i, up(150) == 0 ? random.nextInt() : (long) values[i]);
+        }
+    }
+
+    private int someoneFree(Model.Bonds bonds, int many) {
+        int first = up(many);
+        for (int i = 0; i < many; i++) {
+            int one = (first + i) % many;
+            if (one < bonds.bound.size() && bonds.bound.get(one) < 0) {
+                return one;
+            }
+        }
+        return first;
     }
 
     private void inThought() {
@@ -202,6 +216,10 @@ public final class ModelTest {
         int begin = up(10) == 0 ? 0 : 2 + up(most - 1);
         for (int i = 0; i < begin; i++) {
             ask("person", about(10), about(10));
+        }
+        if (up(4) > 0) {
+            newRow(0, 3);
+            newRow(1, 2);
         }
         while (!wrong && said.size() < CALLS) {
             int way = up(200);

@@ -60,6 +60,7 @@ public final class PeopleTest {
         due("hates 1", 6, x.of(1, 2));
         due("fee 1", 5, x.of(1, 3));
         due("only n", 1, x.people(0, 1, 1));
+        due("only n came", 3, x.count(0));
         due("sharp 2", 2, x.of(2, 0));
         due("the row ends", 0, x.people(0, 8, 1));
         due("far on", 0, x.people(0, Integer.MAX_VALUE, 1));
@@ -149,21 +150,30 @@ public final class PeopleTest {
         due("what is bound stays", 1, x.of(0, 4));
     }
 
+    /** Change i makes the fee of one of two people i; the first three can't be undone at last. */
     private static void manyChanges() {
-        MustDefendHim x = Check.court(0, 0);
+        MustDefendHim x = Check.court(0, 0, 0, 0);
+        int[][] fees = new int[44][];
+        fees[0] = new int[] {5, 5};
         for (int i = 1; i <= 43; i++) {
-            x.mend(0, 3, i + 10);
+            int one = i * i % 3 % 2;
+            fees[i] = fees[i - 1].clone();
+            fees[i][one] = i + 10;
+            due("was", fees[i - 1][one], x.mend(one, 3, i + 10));
         }
         due("40 are kept", 40, x.count(3));
         for (int i = 0; i < 40; i++) {
             due("undo " + i, 39 - i, x.undo());
+            due("fee of 0", fees[42 - i][0], x.of(0, 3));
+            due("fee of 1", fees[42 - i][1], x.of(1, 3));
         }
         due("the oldest are gone", -5, x.undo());
-        due("fee", 13, x.of(0, 3));
         for (int i = 0; i < 40; i++) {
             due("redo " + i, 39 - i, x.redo());
+            due("fee of 0", fees[4 + i][0], x.of(0, 3));
+            due("fee of 1", fees[4 + i][1], x.of(1, 3));
         }
         due("no more", -5, x.redo());
-        due("fee", 53, x.of(0, 3));
+        due("40 may be undone again", 40, x.count(3));
     }
 }

@@ -54,8 +54,12 @@ public final class ShelvesTest {
         }
         due("none", 1, x.row(0, 0, 0));
         due("no place", -13, x.put(0, 0, 1));
-        x.row(0, 3, 60);
-        due("0 at first, whatever was there", 0, x.element(0, 59));
+        for (int i = 0; i < 60; i++) {
+            x.row(0, 3, 60);
+            x.put(0, i, 5);
+            x.row(0, 3, 60);
+            due("0 at first, whatever was there", 0, x.element(0, i));
+        }
         x.put(0, 3, 8);
         due("refused", -14, x.row(0, 0, -1));
         due("it stays", 8, x.element(0, 3));

@@ -265,6 +265,9 @@ public final class ThoughtTest {
         due("nobody", -1, x.drawn(7, 101, 1, 4));
         due("nobody is asked for", 1, x.drawn(7, 101, 0, 4));
         due("one alone", 0, Check.court(1, 1).drawn(7, 3060, 1, 0));
+        MustDefendHim two = Check.court(9, 9, 9, 9);
+        Check.law(two, "12");
+        due("two are enough", 1800, two.drawn(7, 3060, 0, 0));
         oneDraw();
     }
 
