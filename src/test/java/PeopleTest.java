@@ -156,7 +156,7 @@ public final class PeopleTest {
         int[][] fees = new int[44][];
         fees[0] = new int[] {5, 5};
         for (int i = 1; i <= 43; i++) {
-            int one = i * i % 3 % 2;
+            int one = i * i / 5 % 2;
             fees[i] = fees[i - 1].clone();
             fees[i][one] = i + 10;
             due("was", fees[i - 1][one], x.mend(one, 3, i + 10));
