@@ -44,7 +44,7 @@ public final class MustDefendHim {
     }
 
     public int people(int shelf, int i, int n) {
-        if (!isShelf(shelf) || i < 0 || n < 1 || n > MOST_PEOPLE) {
+        if (!isShelf(shelf) || n < 1 || n > MOST_PEOPLE) {
             return BAD;
         }
         Shelf from = shelves[shelf];
@@ -494,7 +494,7 @@ public final class MustDefendHim {
             return isFull() ? FULL : add(sharp, kind, size);
         }
 
-        /** One from three bytes of a row; false: there is none as it may be, or no room. */
+        /** One from three bytes of a row; false: no such places, not as it may be, or no room. */
         boolean welcomeFrom(Shelf row, long place) {
             if (isFull() || place < 0 || place + 3 > row.size()) {
                 return false;
@@ -1422,7 +1422,7 @@ public final class MustDefendHim {
         }
     }
 
-    /** Years of cases by draws, in thought. */
+    /** Years of cases by draws, in thought: each begins from now, only the draws go on. */
     private static final class Draws {
         private final Court court;
         private final Bench bench = new Bench();
@@ -1441,12 +1441,9 @@ public final class MustDefendHim {
             if (court.folk().size() < 2) {
                 return;
             }
-            bench.copyFrom(start);
             int z = seed;
             for (int year = 0; year < years; year++) {
-                if (year > 0) {
-                    bench.beginYear();
-                }
+                bench.copyFrom(start);
                 for (int i = 0; i < each; i++) {
                     z = z * 1103515245 + 12345;
                     drawCase(z, one);

@@ -100,7 +100,7 @@ final class Model {
     }
 
     int people(int shelf, int i, int n) {
-        if (!in(shelf, 0, 5) || i < 0 || !in(n, 1, 7)) {
+        if (!in(shelf, 0, 5) || !in(n, 1, 7)) {
             return BAD;
         }
         if (shelves[shelf] != null && !(shelves[shelf] instanceof byte[])) {
@@ -698,8 +698,8 @@ final class Model {
         }
         int[] sums = new int[3];
         int z = seed;
-        Bonds s = now;
         for (int y = 0; y < nm / 100 && people.size() > 1; y++) {
+            Bonds s = now;
             for (int i = 0; i < nm % 100; i++) {
                 z = z * 1103515245 + 12345;
                 int a = (z >>> 4) % people.size();
@@ -718,7 +718,6 @@ final class Model {
                 }
             }
             sums[2] += s.many();
-            s = fresh();
         }
         return sums[what];
     }

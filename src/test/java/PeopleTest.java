@@ -53,6 +53,9 @@ public final class PeopleTest {
         MustDefendHim x = new MustDefendHim();
         due("a missing row", 0, x.people(0, 0, 7));
         due("a missing row, far on", 0, x.people(0, Integer.MAX_VALUE, 7));
+        due("a missing row, below 0", 0, x.people(0, -1, 1));
+        due("a missing row, n 0", -1, x.people(0, -1, 0));
+        due("a missing row, n 8", -1, x.people(0, -1, 8));
         Check.bytes(x, 0, 1, 2, 3, 4, 5, 6, 7, 8);
         due("ends within a three", 2, x.people(0, 0, 7));
         due("sharp 1", 4, x.of(1, 0));
@@ -64,7 +67,11 @@ public final class PeopleTest {
         due("sharp 2", 2, x.of(2, 0));
         due("the row ends", 0, x.people(0, 8, 1));
         due("far on", 0, x.people(0, Integer.MAX_VALUE, 1));
-        due("a place below 0", -1, x.people(0, -1, 1));
+        for (int place : new int[] {-1, -2, -3, -6, Integer.MIN_VALUE}) {
+            due("nothing is read from below 0 on", 0, x.people(0, place, 7));
+        }
+        due("nobody came", 3, x.count(0));
+        due("no shelf, below 0", -1, x.people(6, -1, 1));
         due("no shelf", -1, x.people(-1, 0, 1));
         due("no shelf", -1, x.people(6, 0, 1));
         due("n 0", -1, x.people(0, 0, 0));
@@ -86,10 +93,12 @@ public final class PeopleTest {
         for (int sort = 1; sort <= 4; sort++) {
             x.row(2, sort, 3);
             due("no bytes", -12, x.people(2, 0, 1));
+            due("no bytes, below 0", -12, x.people(2, -1, 1));
         }
         x.body(0);
         x.keep(2, 0);
         due("a body", -12, x.people(2, 0, 1));
+        due("a body, below 0", -12, x.people(2, -1, 1));
         due("seven came", 7, x.count(0));
     }
 

@@ -253,8 +253,9 @@ public final class ThoughtTest {
         }
         due("somebody won each", 30, won);
         x.hold(1, 1);
-        due("from now: the first is lost", 1, x.drawn(7, 3001, 2, 0));
+        due("from now: a case is ahead of each year", 30, x.drawn(7, 3001, 2, 0));
         due("nothing is changed", 1, x.led(0));
+        yearsFromNow();
         due("no years", -1, x.drawn(7, 40, 0, 0));
         due("31 years", -1, x.drawn(7, 3101, 0, 0));
         due("no cases", -1, x.drawn(7, 100, 0, 0));
@@ -269,6 +270,25 @@ public final class ThoughtTest {
         Check.law(two, "12");
         due("two are enough", 1800, two.drawn(7, 3060, 0, 0));
         oneDraw();
+    }
+
+    /** Each year from who is bound now; only the draws go on from year to year. */
+    private static void yearsFromNow() {
+        MustDefendHim x = Check.court(0, 0, 0, 0);
+        x.hold(1, 0);
+        due("0 is bound as each begins", 265, x.drawn(0, 1530, 0, 0));
+        Check.law(x, "0");
+        int free = 0;
+        int z = 11;
+        for (int year = 0; year < 30; year++) {
+            z = z * 1103515245 + 12345;
+            free += (z >>> 4) % 2;
+        }
+        due("only 1 is let, once in a year", free, x.drawn(11, 3001, 0, 0));
+        // 1 is bound to 0 then, and 0 spoke for nobody but itself: it is free
+        due("one is bound at each end", 30, x.drawn(11, 3001, 2, 0));
+        due("0 is bound in deed", 1, x.of(0, 4));
+        due("1 is free in deed", -1, x.of(1, 4));
     }
 
     /** One draw, reckoned here from the document's words. */
