@@ -285,7 +285,7 @@ public final class ThoughtTest {
             free += (z >>> 4) % 2;
         }
         due("only 1 is let, once in a year", free, x.drawn(11, 3001, 0, 0));
-        // 1 is bound to 0 then, and 0 spoke for nobody but itself: it is free
+        // 0 stays bound, or it has spoken for itself: then it is free, and 1 is bound to it
         due("one is bound at each end", 30, x.drawn(11, 3001, 2, 0));
         due("0 is bound in deed", 1, x.of(0, 4));
         due("1 is free in deed", -1, x.of(1, 4));
