@@ -1,5 +1,15 @@
 /** What the tests share: counting answers that are not as due, and short ways to set a court up. */
 final class Check {
+    /** Asks something of a court by one number. */
+    interface Ask {
+        long by(int v);
+    }
+
+    /** One call on a court. */
+    interface Call {
+        long on(MustDefendHim x);
+    }
+
     private final String name;
     private int asked = 0;
     private int wrong = 0;
@@ -18,6 +28,16 @@ final class Check {
 
     void holds(String what, boolean so) {
         due(what, 1, so ? 1 : 0);
+    }
+
+    /** Of lowest .. highest: these and what lies beside them; below and above it is refused. */
+    void range(String what, int lowest, int highest, long refusal, Ask ask) {
+        for (int v : new int[] {Integer.MIN_VALUE, lowest - 1, highest + 1, Integer.MAX_VALUE}) {
+            due(what + " " + v, refusal, ask.by(v));
+        }
+        for (int v : new int[] {lowest, lowest + 1, highest - 1, highest}) {
+            holds(what + " " + v + " is let", ask.by(v) != refusal);
+        }
     }
 
     void end() {
