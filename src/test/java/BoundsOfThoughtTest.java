@@ -86,12 +86,12 @@ public final class BoundsOfThoughtTest {
 
     /** "as far as all are let (PEOPLE that are there, unlike, .. the end 0 or 1)" */
     private static void letOfACourse() {
-        MustDefendHim x = alike(3);
         for (int a : new int[] {-128, -1, 0, 1, 2, 3, 127}) {
             for (int b : new int[] {-128, -1, 0, 1, 2, 3, 127}) {
                 for (int end : new int[] {-128, -2, -1, 0, 1, 2, 127}) {
                     // by ends 1 nothing is bound, so what is wrong in the second is wrong by itself
-                    Check.bytes(x = alike(3), 0, 0, 1, 1, a, b, end, 0, 1, 1);
+                    MustDefendHim x = alike(3);
+                    Check.bytes(x, 0, 0, 1, 1, a, b, end, 0, 1, 1);
                     boolean there = a >= 0 && a <= 2 && b >= 0 && b <= 2 && a != b && (end == 0 || end == 1);
                     boolean binds = there && end == 0 && a == 0;
                     due(a + " " + b + " " + end, !there ? 1 : binds ? 2 : 3, x.course(0, -1));
