@@ -20,6 +20,7 @@ public final class BoundsOfThoughtTest {
         fees();
         best();
         beside();
+        pairsOfSeven();
         tillBound();
         round();
         sure();
@@ -172,6 +173,11 @@ public final class BoundsOfThoughtTest {
         due("alone, to win", NOT, alike(1).best(0, 0));
         due("alone, to lose", NOT, alike(1).best(0, 1));
         due("alone, another", BAD, alike(1).best(1, 0));
+        for (int what = 0; what <= 1; what++) {
+            due("of two, the other one", 1, alike(2).best(0, what));
+            due("of two, the other one", 0, alike(2).best(1, what));
+            due("of three", 1, alike(3).best(0, what));
+        }
         for (int one = 0; one < 7; one++) {
             due("of like ones, to win", one == 0 ? 1 : 0, alike(7).best(one, 0));
             due("of like ones, to lose", one == 0 ? 1 : 0, alike(7).best(one, 1));
@@ -221,6 +227,33 @@ public final class BoundsOfThoughtTest {
         due("0 of 1", 1, x.beside(2, 1));
         due("bound to b already: not let", 0, x.beside(1, 0));
         due("the other way it is let", 1, x.beside(10, 0));
+    }
+
+    /** "ab: 10 times the one and the other": each pair of seven, and each number that is no pair */
+    private static void pairsOfSeven() {
+        // a hates b alone, so each pair has an answer of its own
+        for (int a = 0; a < 7; a++) {
+            for (int b = 0; b < 7; b++) {
+                MustDefendHim x = alike(7, "a+2*h+d");
+                for (int one = 0; one < 7; one++) {
+                    x.mend(one, 0, one);
+                }
+                x.mend(a, 2, b);
+                x.mend(b, 1, 3);
+                boolean is = a != b;
+                int ab = 10 * a + b;
+                due("wins " + ab, is ? a + 5 : BAD, x.wins(ab, 0));
+                due("beside " + ab, is ? 7 - a : Long.MIN_VALUE, is ? 12 * x.beside(ab, 0) / x.beside(ab, 1)
+                        : x.beside(ab, 0));
+                due("friend " + ab, is ? 3 : VOID, x.friend(ab, 0));
+            }
+        }
+        MustDefendHim x = alike(7);
+        for (int ab = -12; ab <= 112; ab++) {
+            boolean is = ab >= 0 && ab / 10 < 7 && ab % 10 < 7 && ab / 10 != ab % 10;
+            due("beside " + ab, is ? 1 : Long.MIN_VALUE, x.beside(ab, 0));
+            due("friend " + ab, is ? 0 : VOID, x.friend(ab, 0));
+        }
     }
 
     /** "the fewest CASES .. from now (0 on ..); 8 CASES at most; NOT" */
