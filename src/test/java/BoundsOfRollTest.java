@@ -26,6 +26,7 @@ public final class BoundsOfRollTest {
         eightUnknown();
         unknownOfNobody();
         likeliestWay();
+        productOfTwelfths();
         sold();
         check.end();
     }
@@ -363,6 +364,27 @@ public final class BoundsOfRollTest {
         Check.bytes(x, 0, 0, 1, -1, 0, 0, 1);
         due("no way", 0, x.roll(0, 0));
         due("no way", NOT, x.roll(0, 1));
+    }
+
+    /** "by the product of twelfths; of like ones the least bits": told ends count in it, too */
+    private static void productOfTwelfths() {
+        for (int w = 1; w <= 12; w++) {
+            // won: 10 by 1; lost: 2 by w
+            MustDefendHim x = alike(4, "n=0?10;b?" + w + ";1");
+            Check.bytes(x, 0, 0, 1, -1, 2, 3, 1);
+            int likeliest = 2 * w >= 10 ? 0 : 1;
+            due("2 by " + w, likeliest, x.roll(0, 1));
+            due("both ways", 2, x.roll(0, 0));
+            due("sold: lost by 2, or the second by 1", likeliest, x.sold(0));
+        }
+        // sixteen by 11 and by 12: a product above any int
+        MustDefendHim x = alike(2, "n<15?12;11");
+        wins(x, 16, 48);
+        for (int i = 8; i < 16; i++) {
+            x.put(0, 3 * i + 2, -1);
+        }
+        due("the last one can be lost, too", 2, x.roll(0, 0));
+        due("all are won", 255, x.roll(0, 1));
     }
 
     /** "the first CASE whose end has fewer twelfths than the other one"; "NOT (also: no way is so)" */

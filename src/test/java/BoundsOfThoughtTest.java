@@ -24,6 +24,8 @@ public final class BoundsOfThoughtTest {
         tillBound();
         round();
         sure();
+        sureByAnotherOne();
+        pairsOfFour();
         howManyPeople();
         quiet();
         friend();
@@ -231,10 +233,10 @@ public final class BoundsOfThoughtTest {
 
     /** "ab: 10 times the one and the other": each pair of seven, and each number that is no pair */
     private static void pairsOfSeven() {
-        // a hates b alone, so each pair has an answer of its own
+        // only of whom a hates does the speaker count, so a wrong pair has another answer
         for (int a = 0; a < 7; a++) {
             for (int b = 0; b < 7; b++) {
-                MustDefendHim x = alike(7, "a+2*h+d");
+                MustDefendHim x = alike(7, "h*d+a");
                 for (int one = 0; one < 7; one++) {
                     x.mend(one, 0, one);
                 }
@@ -242,8 +244,8 @@ public final class BoundsOfThoughtTest {
                 x.mend(b, 1, 3);
                 boolean is = a != b;
                 int ab = 10 * a + b;
-                due("wins " + ab, is ? a + 5 : BAD, x.wins(ab, 0));
-                due("beside " + ab, is ? 7 - a : Long.MIN_VALUE, is ? 12 * x.beside(ab, 0) / x.beside(ab, 1)
+                due("wins " + ab, is ? a + 3 : BAD, x.wins(ab, 0));
+                due("beside " + ab, is ? 9 - a : Long.MIN_VALUE, is ? 12 * x.beside(ab, 0) / x.beside(ab, 1)
                         : x.beside(ab, 0));
                 due("friend " + ab, is ? 3 : VOID, x.friend(ab, 0));
             }
@@ -316,6 +318,48 @@ public final class BoundsOfThoughtTest {
         due("free again", 1, x.sure(1));
     }
 
+    /** "at each step the best next charge": one who is surely won against may come ahead of b */
+    private static void sureByAnotherOne() {
+        for (int first = 10; first <= 12; first++) {
+            // 1 is bound: once it is charged and loses, nobody is bound, and 0 wins for ever
+            MustDefendHim x = Check.court(0, 5, 0, 5);
+            x.hold(10, 0);
+            Check.law(x, "b=0?12;n=1&d=0?" + first + ";n=1?6;0");
+            due("nobody else is there", NOT, x.sure(1));
+            x.person(0, 5);
+            due("a third one who is not of that kind", NOT, x.sure(1));
+            x.person(0, 0);
+            due("the fourth one by " + first, first == 12 ? 2 : NOT, x.sure(1));
+            x.mend(2, 1, 0);
+            x.mend(3, 1, 5);
+            due("the third one by " + first, first == 12 ? 2 : NOT, x.sure(1));
+            due("that one itself: 1 stays bound, so the second is lost", 2, x.sure(2));
+        }
+    }
+
+    /** Each pair of four: 0 to the first and 3 to the last, too */
+    private static void pairsOfFour() {
+        for (int a = 0; a < 4; a++) {
+            for (int b = 0; b < 4; b++) {
+                MustDefendHim x = alike(4, "h?0;12");
+                for (int one = 0; one < 4; one++) {
+                    x.mend(one, 2, one == 3 ? 0 : one + 1);
+                }
+                int ab = 10 * a + b;
+                boolean hated = b == (a + 1) % 4;
+                due("till bound to whom he hates: " + ab, a == b ? BAD : hated ? 1 : NOT, x.tillBound(ab));
+                due("sure of whom he hates: " + ab, a == b ? BAD : hated ? 1 : NOT, x.sure(ab));
+                Check.law(x, "n<2?12;0");
+                due("the third case: " + ab, a == b ? BAD : 3, x.tillBound(ab));
+                due("sure by the third case: " + ab, a == b ? BAD : 3, x.sure(ab));
+            }
+        }
+        for (int people = 2; people <= 4; people++) {
+            due("whoever charges is bound: none comes round", NOT, alike(people, "0").round());
+            due("who is charged and loses is free", 1, alike(people, "12").round());
+        }
+    }
+
     /** "4 PEOPLE at most, else STATE"; "BAD (alike, too)" */
     private static void howManyPeople() {
         for (int people = 0; people <= 7; people++) {
@@ -343,6 +387,9 @@ public final class BoundsOfThoughtTest {
         due("nobody", BAD, alike(0).quiet(0, 0));
         due("nobody else", 12, alike(1, "3").quiet(0, 0));
         due("nobody else", 0, alike(1, "3").quiet(0, 1));
+        due("one else", 3, alike(2, "3").quiet(0, 0));
+        due("one else", 1, alike(2, "3").quiet(0, 1));
+        due("one else, by 6", 0, alike(2, "6").quiet(0, 1));
         for (int worst = 0; worst <= 12; worst++) {
             for (int finest = worst; finest <= 12; finest++) {
                 MustDefendHim x = Check.court(0, 0, 0, 1, 0, 2, 0, 1);
