@@ -486,8 +486,10 @@ public final class MustDefendHim {
             return size >= MOST_PEOPLE;
         }
 
+        // asks nothing further: of all chains of calls the deepest one, tillBound(), ends here
         int numberOf(int one, int what) {
-            return has(one) && what >= 0 && what < NUMBERS ? numbers[NUMBERS * one + what] : 0;
+            boolean isThere = one >= 0 && one < size && what >= 0 && what < NUMBERS;
+            return isThere ? numbers[NUMBERS * one + what] : 0;
         }
 
         int welcome(int sharp, int kind) {
